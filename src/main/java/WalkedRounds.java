@@ -91,7 +91,7 @@ public final class WalkedRounds {
         if (!terms.has(t) || !web.hasNode(node)) return UNKNOWN;
         if (arc != NONE && !web.hasArc(arc)) return UNKNOWN;
         asker.begin();
-        long value = asker.comesTo(t, node, arc);
+        long value = asker.valueOf(t, node, arc, 0);
         whyAsked = asker.fault;
         return value;
     }
@@ -187,6 +187,7 @@ public final class WalkedRounds {
     private static final class Web {
         final long[] states = new long[MOST_NODES * STATES];
         final boolean[] awake = new boolean[MOST_NODES];
+        final int[] degrees = new int[MOST_NODES];
         final int[] from = new int[MOST_ARCS];
         final int[] to = new int[MOST_ARCS];
         final long[] weights = new long[MOST_ARCS];
@@ -214,6 +215,7 @@ public final class WalkedRounds {
             from[arcs] = start;
             to[arcs] = end;
             weights[arcs] = weight;
+            degrees[start]++;
             arcs++;
             return arcs - 1;
         }
@@ -222,14 +224,6 @@ public final class WalkedRounds {
             int many = 0;
             for (int i = 0; i < nodes; i++) {
                 if (awake[i]) many++;
-            }
-            return many;
-        }
-
-        int arcsFrom(int node) {
-            int many = 0;
-            for (int i = 0; i < arcs; i++) {
-                if (from[i] == node) many++;
             }
             return many;
         }
@@ -359,7 +353,7 @@ public final class WalkedRounds {
     private static final class Asker {
         private final Terms terms;
         private final Web web;
-        private int atNode, ofArc, foldedMessages, steps;
+        private int foldedMessages, steps;
         private long foldedValue;
         int fault, allSteps;
 
@@ -372,10 +366,6 @@ public final class WalkedRounds {
         void begin() {
             steps = 0;
             fault = 0;
-            foldNothing();
-        }
-
-        void foldNothing() {
             setFolded(0, 0);
         }
 
@@ -384,40 +374,39 @@ public final class WalkedRounds {
             foldedMessages = messages;
         }
 
-        /** What a term comes to; 0 if it fails. */
-        long comesTo(int t, int node, int arc) {
-            atNode = node;
-            ofArc = arc;
-            long value = valueOf(t, 0);
-            return fault == 0 ? value : 0;
-        }
-
-        private long valueOf(int t, int level) {
+        /** What a term comes to; 0 if it fails. No part is as deep as the terms are many, as parts are elder. */
+        private long valueOf(int t, int node, int arc, int level) {
             if (steps >= MOST_STEPS || level >= MOST_TERMS) return fails(SPENT);
             steps++;
             allSteps++;
             int kind = terms.kinds[t];
-            if (kind < PLUS) return plainValue(kind, terms.numbers[t]);
-            long a = valueOf(terms.partA[t], level + 1);
+            if (kind < PLUS) return plainValue(t, node, arc);
+            long a = valueOf(terms.partA[t], node, arc, level + 1);
             if (fault != 0) return 0;
-            if (kind == STATE_AT) return stateAt((int) a);
-            if (kind == CHOICE) return valueOf(a != 0 ? terms.partB[t] : terms.partC[t], level + 1);
-            long b = valueOf(terms.partB[t], level + 1);
+            if (kind == STATE_AT) return stateAt(node, (int) a);
+            if (kind == CHOICE) return valueOf(a != 0 ? terms.partB[t] : terms.partC[t], node, arc, level + 1);
+            long b = valueOf(terms.partB[t], node, arc, level + 1);
             if (fault != 0) return 0;
             return joined(kind, a, b);
         }
 
-        private long plainValue(int kind, long n) {
-            switch (kind) {
-                case STATE: return stateAt((int) n);
-                case WEIGHT: return ofArc == NONE ? 0 : web.weights[ofArc];
+        private long plainValue(int t, int node, int arc) {
+            switch (terms.kinds[t]) {
+                case STATE: return web.states[node * STATES + (int) terms.numbers[t]];
+                case WEIGHT: return arc == NONE ? 0 : web.weights[arc];
                 case FOLDED: return foldedValue;
                 case MESSAGES: return foldedMessages;
                 case ROUND: return web.rounds + 1;
-                case DEGREE: return web.arcsFrom(atNode);
+                case DEGREE: return web.degrees[node];
                 case WHOLE: return web.sum;
-                default: return n;
+                default: return terms.numbers[t];
             }
+        }
+
+        private long stateAt(int node, int k) {
+            if (k >= 0 && k < STATES) return web.states[node * STATES + k];
+            fault = INDEX;
+            return 0;
         }
 
         private long joined(int kind, long a, long b) {
@@ -425,16 +414,14 @@ public final class WalkedRounds {
                 case PLUS: return a + b;
                 case MINUS: return a - b;
                 case TIMES: return a * b;
-                case QUOTIENT: return b == 0 ? fails(DIVISION) : a / b;
-                case REMAINDER: return b == 0 ? fails(DIVISION) : a % b;
-                case LESSER: return Math.min(a, b);
-                case GREATER: return Math.max(a, b);
-                default: return a < b ? 1 : 0;
+                case LESSER: return a < b ? a : b;
+                case GREATER: return a > b ? a : b;
+                case BELOW: return a < b ? 1 : 0;
+                default: break;
             }
-        }
-
-        private long stateAt(int k) {
-            return isState(k) ? web.states[atNode * STATES + k] : fails(INDEX);
+            if (b != 0) return kind == QUOTIENT ? a / b : a % b;
+            fault = DIVISION;
+            return 0;
         }
 
         private long fails(int how) {
@@ -457,35 +444,12 @@ public final class WalkedRounds {
             this.failure = failure;
         }
 
-        boolean sends(int node, int arc) {
-            return comesTo(SEND, node, arc, 1) != 0;
-        }
-
-        long messageOf(int node, int arc) {
-            return comesTo(MESSAGE, node, arc, 1);
-        }
-
-        long newState(int node, int k) {
-            return comesTo(NEW + k, node, NONE, web.states[node * STATES + k]);
-        }
-
-        boolean halts(int node) {
-            return comesTo(HALT, node, NONE, 0) != 0;
-        }
-
-        long partOf(int node) {
-            return comesTo(PART, node, NONE, 0);
-        }
-
-        void fails(int how, int act, int node, int arc) {
-            failure.keep(how, act, node, arc, web.rounds + 1);
-        }
-
-        private long comesTo(int act, int node, int arc, long without) {
+        /** What an act comes to: the number told for a program without it, 0 if it fails. */
+        long comesTo(int act, int node, int arc, long without) {
             int t = program.acts[act];
             if (t == NONE) return without;
-            long value = asker.comesTo(t, node, arc);
-            if (asker.fault != 0) fails(asker.fault, act, node, arc);
+            long value = asker.valueOf(t, node, arc, 0);
+            if (asker.fault != 0) failure.keep(asker.fault, act, node, arc, web.rounds + 1);
             return value;
         }
     }
@@ -494,6 +458,7 @@ public final class WalkedRounds {
     private static final class RoundWalk {
         private final Web web;
         private final Actor actor;
+        private final Failure failure;
         private final Past past;
         private final Told told;
         private final int[] sentArcs = new int[MOST_ARCS];
@@ -507,6 +472,7 @@ public final class WalkedRounds {
         RoundWalk(Actor actor, Past past, Told told) {
             this.web = actor.web;
             this.actor = actor;
+            this.failure = actor.failure;
             this.past = past;
             this.told = told;
         }
@@ -521,10 +487,10 @@ public final class WalkedRounds {
             past.mark(web);
             begin();
             sendAll(pulled);
-            if (!actor.failure.is()) askNodes();
-            if (!actor.failure.is()) changeNodes();
-            if (!actor.failure.is()) sumParts();
-            if (actor.failure.is()) {
+            if (!failure.is()) askNodes();
+            if (!failure.is()) changeNodes();
+            if (!failure.is()) sumParts();
+            if (failure.is()) {
                 past.backToMark(web);
                 return false;
             }
@@ -545,17 +511,16 @@ public final class WalkedRounds {
             for (int node = 0; node < web.nodes; node++) {
                 for (int arc = 0; arc < web.arcs; arc++) {
                     if (ends[arc] == node && web.awake[web.from[arc]]) sendAlong(arc);
-                    if (actor.failure.is()) return;
+                    if (failure.is()) return;
                 }
             }
         }
 
         private void sendAlong(int arc) {
             int node = web.from[arc];
-            if (!actor.sends(node, arc)) return;
-            carried[arc] = actor.messageOf(node, arc);
+            if (sent >= MOST_ARCS || actor.comesTo(SEND, node, arc, 1) == 0) return;
+            carried[arc] = actor.comesTo(MESSAGE, node, arc, 1);
             carries[arc] = true;
-            if (sent >= MOST_ARCS) return;
             sentArcs[sent] = arc;
             sent++;
         }
@@ -565,7 +530,7 @@ public final class WalkedRounds {
                 int messages = messagesTo(node);
                 reached[node] = web.awake[node] || messages > 0;
                 if (reached[node]) askNode(node, messages);
-                if (actor.failure.is()) return;
+                if (failure.is()) return;
             }
         }
 
@@ -579,12 +544,12 @@ public final class WalkedRounds {
 
         private void askNode(int node, int messages) {
             actor.asker.setFolded(foldFor(node), messages);
-            for (int k = 0; k < STATES; k++) {
-                if (actor.failure.is()) return;
-                newStates[node * STATES + k] = actor.newState(node, k);
+            for (int i = node * STATES; i < node * STATES + STATES; i++) {
+                if (failure.is()) return;
+                newStates[i] = actor.comesTo(NEW + i % STATES, node, NONE, web.states[i]);
             }
-            if (actor.failure.is()) return;
-            halting[node] = actor.halts(node);
+            if (failure.is()) return;
+            halting[node] = actor.comesTo(HALT, node, NONE, 0) != 0;
         }
 
         /** Goes by the numbers of the arcs, not by the order of sending. */
@@ -595,7 +560,7 @@ public final class WalkedRounds {
                 if (!carries[arc] || web.to[arc] != node) continue;
                 folded = first ? carried[arc] : foldTwo(folded, carried[arc], node);
                 first = false;
-                if (actor.failure.is()) return 0;
+                if (failure.is()) return 0;
             }
             return folded;
         }
@@ -605,14 +570,11 @@ public final class WalkedRounds {
                 case FOLD_LEAST: return Math.min(folded, next);
                 case FOLD_GREATEST: return Math.max(folded, next);
                 case FOLD_LAST: return next;
-                default: return fittingSum(folded, next, node);
+                default: break;
             }
-        }
-
-        private long fittingSum(long x, long y, int node) {
-            long sum = x + y;
+            long sum = folded + next;
             // Only a sum that does not fit has another sign than both of its parts.
-            if (((x ^ sum) & (y ^ sum)) < 0) actor.fails(LONG, FOLDING, node, NONE);
+            if (((folded ^ sum) & (next ^ sum)) < 0) failure.keep(LONG, FOLDING, node, NONE, web.rounds + 1);
             return sum;
         }
 
@@ -626,11 +588,11 @@ public final class WalkedRounds {
 
         /** The whole changes only when all parts are known: a part may ask for the elder whole. */
         private void sumParts() {
-            actor.asker.foldNothing();
+            actor.asker.setFolded(0, 0);
             long sum = 0;
             for (int node = 0; node < web.nodes; node++) {
-                sum += actor.partOf(node);
-                if (actor.failure.is()) return;
+                sum += actor.comesTo(PART, node, NONE, 0);
+                if (failure.is()) return;
             }
             web.sum = sum;
         }
@@ -645,6 +607,7 @@ public final class WalkedRounds {
     private static final class LineWalk {
         private final Web web;
         private final Actor actor;
+        private final Failure failure;
         private final Past past;
         private final Told told;
         private final int[] arcs = new int[MOST_IN_LINE];
@@ -656,6 +619,7 @@ public final class WalkedRounds {
         LineWalk(Actor actor, Past past, Told told) {
             this.web = actor.web;
             this.actor = actor;
+            this.failure = actor.failure;
             this.past = past;
             this.told = told;
         }
@@ -667,7 +631,7 @@ public final class WalkedRounds {
             size = 0;
             startLine();
             int taken = 0;
-            while (taken < n && size > 0 && !actor.failure.is()) {
+            while (taken < n && size > 0 && !failure.is()) {
                 int arc = arcs[first];
                 long value = values[first];
                 if (!isDone(arc, value)) break;
@@ -683,22 +647,23 @@ public final class WalkedRounds {
         private void startLine() {
             for (int node = 0; node < web.nodes; node++) {
                 if (web.awake[node]) sendOn(node);
-                if (actor.failure.is()) return;
+                if (failure.is()) return;
             }
         }
 
         private void sendOn(int node) {
             for (int arc = 0; arc < web.arcs; arc++) {
-                if (web.from[arc] == node && actor.sends(node, arc)) sendAlong(node, arc);
-                if (actor.failure.is()) return;
+                if (web.from[arc] == node) sendAlong(node, arc);
+                if (failure.is()) return;
             }
         }
 
         private void sendAlong(int node, int arc) {
-            long value = actor.messageOf(node, arc);
-            if (actor.failure.is()) return;
+            if (actor.comesTo(SEND, node, arc, 1) == 0) return;
+            long value = actor.comesTo(MESSAGE, node, arc, 1);
+            if (failure.is()) return;
             if (size >= MOST_IN_LINE) {
-                actor.fails(FULL, MESSAGE, node, arc);
+                failure.keep(FULL, MESSAGE, node, arc, web.rounds + 1);
                 return;
             }
             int end = (first + size) % MOST_IN_LINE;
@@ -712,26 +677,22 @@ public final class WalkedRounds {
             size--;
             int node = web.to[arc];
             System.arraycopy(web.states, node * STATES, oldStates, 0, STATES);
-            takeIn(node, value);
-            if (!actor.failure.is()) goOn(node);
-            if (!actor.failure.is()) return true;
+            actor.asker.setFolded(value, 1);
+            takeStates(node);
+            boolean halts = !failure.is() && actor.comesTo(HALT, node, NONE, 0) != 0;
+            actor.asker.setFolded(0, 0);
+            if (!failure.is() && !halts) sendOn(node);
+            if (!failure.is()) return true;
             System.arraycopy(oldStates, 0, web.states, node * STATES, STATES);
             return false;
         }
 
-        private void takeIn(int node, long value) {
-            actor.asker.setFolded(value, 1);
+        private void takeStates(int node) {
             for (int k = 0; k < STATES; k++) {
-                newStates[k] = actor.newState(node, k);
-                if (actor.failure.is()) return;
+                newStates[k] = actor.comesTo(NEW + k, node, NONE, oldStates[k]);
+                if (failure.is()) return;
             }
             System.arraycopy(newStates, 0, web.states, node * STATES, STATES);
-        }
-
-        private void goOn(int node) {
-            boolean halts = actor.halts(node);
-            actor.asker.foldNothing();
-            if (!actor.failure.is() && !halts) sendOn(node);
         }
     }
 }

@@ -45,6 +45,13 @@ public final class AskTest {
         asks("the whole", x, whole, 0, NONE, 42, 0);
         asks("nothing folded after rounds", x, Due.leaf(x, 3), 1, NONE, 0, 0);
         asks("of no messages after rounds", x, Due.leaf(x, 4), 1, NONE, 0, 0);
+        x.act(5, x.term(17, Due.number(x, 3), 0, 0, 0));
+        for (int form = 0; form < 3; form++) {
+            Due.is("fails with something FOLDED", x.run(form, 1), 0);
+            Due.is("fails at HALT", x.failed(1), 5);
+            asks("nothing folded after a failure", x, Due.leaf(x, 3), 1, NONE, 0, 0);
+            asks("of no messages after a failure", x, Due.leaf(x, 4), 1, NONE, 0, 0);
+        }
     }
 
     private static void joined(int kind, long a, long b, long want, int why) {
@@ -96,6 +103,7 @@ public final class AskTest {
         int before = x.count(5);
         asks("a fails ahead of b", x, Due.join(x, 8, bad, five), 0, NONE, 0, 1);
         Due.is("b is not asked then", x.count(5), before + 4);
+        asks("b fails after a", x, Due.join(x, 8, five, bad), 0, NONE, 0, 1);
     }
 
     private static void stateAt() {
@@ -127,6 +135,11 @@ public final class AskTest {
         Due.is("the 3001st is not", x.count(5), 8047);
         asks("3000 steps once more", x, exact, 0, NONE, 0, 0);
         Due.noFailure("ask() is no run()", x);
+        WalkedRounds z = Due.withNodes(1);
+        Due.heavy(z, 10);
+        int chain = chainOf(z, 2999);
+        asks("the choice is the 3001st", z, z.term(16, chain, 0, 0, 0), 0, NONE, 0, 4);
+        Due.is("3000 steps", z.count(5), 3000);
         WalkedRounds y = Due.withNodes(1);
         int deep = Due.number(y, 0);
         for (int i = 0; i < 39; i++) deep = y.term(17, deep, 0, 0, 0);
