@@ -7,9 +7,11 @@ public final class AgainstModelTest {
     private static final int[] ODD = {-1, -2, 12, 40, Integer.MIN_VALUE, Integer.MAX_VALUE};
 
     private final Random random;
+    private static final int MOST_CALLS = 512, READS = 6;
     private final WalkedRounds x = new WalkedRounds();
     private final PlainModel model = new PlainModel();
     private final int seed;
+    private int calls;
 
     private AgainstModelTest(int seed) {
         this.seed = seed;
@@ -18,16 +20,18 @@ public final class AgainstModelTest {
 
     public static void main(String[] args) {
         int[] failures = new int[6];
-        for (int seed = 0; seed < 3000; seed++) {
+        for (int seed = 0; seed < 12000; seed++) {
             AgainstModelTest test = new AgainstModelTest(seed);
             test.build();
-            for (int i = 0; i < 120; i++) test.call(failures);
+            test.goOn(failures);
         }
         for (int i = 0; i < 6; i++) Due.holds("failures of sort " + i + " come up: " + failures[i], failures[i] > 30);
         Due.end();
     }
 
+    /** One call of the class, and what it answered. */
     private void same(String call, long got, long want) {
+        calls++;
         Due.is("seed " + seed + ": " + call, got, want);
     }
 
@@ -57,13 +61,13 @@ public final class AgainstModelTest {
     }
 
     private void addArc() {
-        int from = oneOf(x.count(1)), to = oneOf(x.count(1));
+        int from = oneOf(model.count(1)), to = oneOf(model.count(1));
         long weight = number();
         same("arc()", x.arc(from, to, weight), model.arc(from, to, weight));
     }
 
     private void addTerm() {
-        int many = x.count(0);
+        int many = model.count(0);
         int kind = many < 4 ? below(8) : below(40) == 0 ? ODD[below(ODD.length)] : below(18);
         if (isHeavy() && many > 6) kind = HARMLESS[below(HARMLESS.length)];
         int a = part(many), b = part(many), c = part(many);
@@ -81,7 +85,7 @@ public final class AgainstModelTest {
     }
 
     private void setAct() {
-        int which = oneOf(7), t = below(5) == 0 ? -1 : oneOf(x.count(0));
+        int which = oneOf(7), t = below(5) == 0 ? -1 : oneOf(model.count(0));
         same("act()", x.act(which, t), model.act(which, t));
     }
 
@@ -98,17 +102,16 @@ public final class AgainstModelTest {
             case 12: case 13: case 14: askTerm(); break;
             default: walk(failures);
         }
-        compare();
     }
 
     private void putState() {
-        int node = oneOf(x.count(1)), k = oneOf(3);
+        int node = oneOf(model.count(1)), k = oneOf(3);
         long v = number();
         same("put()", x.put(node, k, v), model.put(node, k, v));
     }
 
     private void wakeNode() {
-        int node = oneOf(x.count(1));
+        int node = oneOf(model.count(1));
         boolean on = below(3) > 0;
         same("wake()", x.wake(node, on), model.wake(node, on));
     }
@@ -119,7 +122,7 @@ public final class AgainstModelTest {
     }
 
     private void askTerm() {
-        int t = oneOf(x.count(0)), node = oneOf(x.count(1)), arc = below(3) == 0 ? -1 : oneOf(x.count(2));
+        int t = oneOf(model.count(0)), node = oneOf(model.count(1)), arc = below(3) == 0 ? -1 : oneOf(model.count(2));
         same("ask()", x.ask(t, node, arc), model.ask(t, node, arc));
     }
 
@@ -127,21 +130,72 @@ public final class AgainstModelTest {
         int form = below(40) == 0 ? ODD[below(ODD.length)] : below(3);
         int n = below(4) == 0 ? below(210) : 1 + below(4);
         same("run(" + form + ", " + n + ")", x.run(form, n), model.run(form, n));
-        failures[x.failed(0)]++;
+        failures[model.failed(0)]++;
     }
 
-    private void compare() {
-        for (int i = -1; i < 9; i++) same("count(" + i + ")", x.count(i), model.count(i));
-        for (int i = -1; i < 6; i++) same("failed(" + i + ")", x.failed(i), model.failed(i));
+    /** In odd runs a few reads after each call; in even ones all that there is to read, after fewer calls. */
+    private void goOn(int[] failures) {
+        while (calls < MOST_CALLS) {
+            call(failures);
+            if (seed % 2 == 0) readAll();
+            else for (int i = 0; i < READS && calls < MOST_CALLS; i++) readOne();
+        }
+    }
+
+    private void readAll() {
+        int reads = 10 + 7 + 2 + (model.count(1) + 2) * 6 + (model.count(6) + 2) * 2;
+        if (calls + reads > MOST_CALLS) {
+            if (calls < MOST_CALLS) readOne();
+            return;
+        }
+        for (int i = -1; i < 9; i++) readCount(i);
+        for (int i = -1; i < 6; i++) readFailed(i);
         same("why()", x.why(), model.why());
         same("whole()", x.whole(), model.whole());
-        for (int i = -1; i <= x.count(1); i++) {
-            same("awake()", x.awake(i), model.awake(i));
-            for (int k = -1; k < 4; k++) same("state()", x.state(i, k), model.state(i, k));
+        for (int i = -1; i <= model.count(1); i++) {
+            readAwake(i);
+            for (int k = -1; k < 4; k++) readState(i, k);
         }
-        for (int i = -1; i <= x.count(6); i++) {
-            same("along()", x.along(i), model.along(i));
-            same("message()", x.message(i), model.message(i));
+        for (int i = -1; i <= model.count(6); i++) {
+            readAlong(i);
+            readMessage(i);
         }
+    }
+
+    private void readOne() {
+        switch (below(12)) {
+            case 0: same("why()", x.why(), model.why()); break;
+            case 1: same("whole()", x.whole(), model.whole()); break;
+            case 2: case 3: readCount(below(10) - 1); break;
+            case 4: case 5: readFailed(below(7) - 1); break;
+            case 6: readAwake(oneOf(model.count(1))); break;
+            case 7: readAlong(oneOf(model.count(6))); break;
+            case 8: readMessage(oneOf(model.count(6))); break;
+            default: readState(oneOf(model.count(1)), oneOf(3));
+        }
+    }
+
+    private void readCount(int what) {
+        same("count(" + what + ")", x.count(what), model.count(what));
+    }
+
+    private void readFailed(int what) {
+        same("failed(" + what + ")", x.failed(what), model.failed(what));
+    }
+
+    private void readAwake(int node) {
+        same("awake(" + node + ")", x.awake(node), model.awake(node));
+    }
+
+    private void readState(int node, int k) {
+        same("state(" + node + ", " + k + ")", x.state(node, k), model.state(node, k));
+    }
+
+    private void readAlong(int i) {
+        same("along(" + i + ")", x.along(i), model.along(i));
+    }
+
+    private void readMessage(int i) {
+        same("message(" + i + ")", x.message(i), model.message(i));
     }
 }

@@ -2,15 +2,25 @@
 final class Due {
     private static int wrong = 0;
     private static int asked = 0;
+    private static String heading = "";
 
     private Due() {
+    }
+
+    /** What stands ahead of each wrong answer from here on. */
+    static void under(String newHeading) {
+        heading = newHeading;
+    }
+
+    static int asked() {
+        return asked;
     }
 
     static void is(String what, long got, long want) {
         asked++;
         if (got == want) return;
         wrong++;
-        if (wrong <= 50) System.out.println(what + " answered " + got + ", due is " + want);
+        if (wrong <= 50) System.out.println(heading + what + " answered " + got + ", due is " + want);
     }
 
     static void holds(String what, boolean so) {
@@ -40,11 +50,54 @@ final class Due {
         return x.term(kind, a, b, 0, 0);
     }
 
+    static int choose(WalkedRounds x, int a, int b, int c) {
+        return x.term(16, a, b, c, 0);
+    }
+
+    static int stateAt(WalkedRounds x, int a) {
+        return x.term(17, a, 0, 0, 0);
+    }
+
+    /** A term that always fails, by DIVISION. */
+    static int division(WalkedRounds x) {
+        int zero = number(x, 0);
+        return join(x, 11, zero, zero);
+    }
+
+    /** A term that always fails, by INDEX. */
+    static int index(WalkedRounds x) {
+        return stateAt(x, number(x, 3));
+    }
+
+    /** A term that comes to 0 and takes so many steps (1, or 3 and more), of 26 terms at most for 3001. */
+    static int ofSteps(WalkedRounds x, int steps) {
+        if (steps % 2 == 0) {
+            int odd = ofSteps(x, steps - 3);
+            return join(x, 10, odd, stateAt(x, number(x, 0)));
+        }
+        int[] doubled = new int[12];
+        doubled[0] = number(x, 0);
+        int top = 0;
+        for (; (4 << top) - 1 <= steps; top++) doubled[top + 1] = join(x, 10, doubled[top], doubled[top]);
+        int t = doubled[top];
+        int left = steps - ((2 << top) - 1);
+        // A term of 2 to the power of i, less 1, steps, joined to another, adds 2 to the power of i.
+        for (int i = top; i > 0; i--) {
+            if ((left >> i & 1) != 0) t = join(x, 10, t, doubled[i - 1]);
+        }
+        return t;
+    }
+
     /** A term of kind 8 that takes 2 to the power of doublings + 1, less 1, steps. */
     static int heavy(WalkedRounds x, int doublings) {
         int t = number(x, 0);
         for (int i = 0; i < doublings; i++) t = join(x, 8, t, t);
         return t;
+    }
+
+    static void asks(String what, WalkedRounds x, int t, int node, int arc, long want, int why) {
+        is(what, x.ask(t, node, arc), want);
+        is(what + ": why()", x.why(), why);
     }
 
     static void failed(String what, WalkedRounds x, int failure, int act, int node, int arc, int round) {

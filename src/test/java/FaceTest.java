@@ -77,8 +77,10 @@ public final class FaceTest {
     private static void words(String source) {
         String code = source.replaceAll("(?s)/\\*.*?\\*/", "").replaceAll("//[^\n]*", "");
         String[] ruledOut = {"\\bthrow", "\\btry\\b", "\\bcatch\\b", "\\bsynchronized\\b", "\\bassert\\b", "->", "::",
-            "Exact\\b", "\\bimport\\b", "\\bpackage\\b", "\\bnew\\s+\\w+\\([^)]*\\)\\s*\\{", "\\bhashCode\\b",
-            "\\btoString\\b", "\\bequals\\b", "\\bstatic\\s*\\{", "\\bprotected\\b", "\\bThread\\b", "\\brecord\\b"};
+            "Exact\\b", "\\bimport\\s+(?!java\\.util\\.(ArrayList|List|Arrays|Iterator);)", "\\bpackage\\b",
+            "\\bnew\\s+\\w+\\([^)]*\\)\\s*\\{", "\\bint\\s+hashCode\\b", "\\bString\\s+toString\\b",
+            "\\bboolean\\s+equals\\b", "\\bstatic\\s*\\{", "\\bprotected\\b", "\\bThread\\b", "\\bRandom\\b",
+            "\\bSystem\\.(?!arraycopy\\b)"};
         for (String word : ruledOut) Due.holds("no " + word, !Pattern.compile(word).matcher(code).find());
     }
 }
