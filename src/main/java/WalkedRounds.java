@@ -277,14 +277,14 @@ public final class WalkedRounds {
 
         void take(Web web) {
             System.arraycopy(web.states, 0, states, 0, states.length);
-            System.arraycopy(web.awake, 0, awake, 0, awake.length);
+            for (int i = 0; i < MOST_NODES; i++) awake[i] = web.awake[i];
             rounds = web.rounds;
             sum = web.sum;
         }
 
         void giveBack(Web web) {
             System.arraycopy(states, 0, web.states, 0, states.length);
-            System.arraycopy(awake, 0, web.awake, 0, awake.length);
+            for (int i = 0; i < MOST_NODES; i++) web.awake[i] = awake[i];
             web.rounds = rounds;
             web.sum = sum;
         }
